@@ -220,7 +220,7 @@ public final class RoomsCaught {
         if (has(hall.hits, from)) {
             return NOT;
         }
-        return isSeen(hall.hits, from, to) ? 1 : 0;
+        return has(hiddenFrom(from, hall.hits), to) ? 0 : 1;
     }
 
     public int next(long asked, long places) {
@@ -229,7 +229,7 @@ public final class RoomsCaught {
         int most = -1;
         for (int place = 0; place < CELLS; place++) {
             if (has(places & ~hall.hits, place)) {
-                int seen = countSeen(hall.hits, place, wanted);
+                int seen = Long.bitCount(wanted & ~hiddenFrom(place, hall.hits));
                 if (seen > most) {
                     most = seen;
                     best = place;
@@ -321,6 +321,10 @@ public final class RoomsCaught {
         return isWithin(cell, 0, CELLS - 1);
     }
 
+    private static boolean isInHall(int x, int y) {
+        return isWithin(x, 0, SIDE - 1) && isWithin(y, 0, SIDE - 1);
+    }
+
     private static boolean isTurn(int turn) {
         return isWithin(turn, 0, TURNS - 1);
     }
@@ -370,27 +374,31 @@ public final class RoomsCaught {
         return 1;
     }
 
-    private static boolean isSeen(long blocking, int from, int to) {
-        int x = to % SIDE - from % SIDE;
-        int y = to / SIDE - from / SIDE;
-        int steps = stepsOf(x, y);
-        int stride = SIDE * (y / steps) + x / steps;
-        for (int k = 1; k < steps; k++) {
-            if (has(blocking, from + k * stride)) {
-                return false;
+    /** The cells that those blocking hide from a cell that is none of them. */
+    private static long hiddenFrom(int from, long blocking) {
+        long hidden = 0;
+        for (int cell = 0; cell < CELLS; cell++) {
+            if (has(blocking, cell)) {
+                hidden |= behind(from, cell);
             }
         }
-        return true;
+        return hidden;
     }
 
-    private static int countSeen(long blocking, int from, long wanted) {
-        int seen = 0;
-        for (int to = 0; to < CELLS; to++) {
-            if (has(wanted, to) && isSeen(blocking, from, to)) {
-                seen++;
-            }
+    /** The cells farther on, on the line from one cell through another. */
+    private static long behind(int from, int through) {
+        int x = through % SIDE - from % SIDE;
+        int y = through / SIDE - from / SIDE;
+        int steps = stepsOf(x, y);
+        int nextX = through % SIDE + x / steps;
+        int nextY = through / SIDE + y / steps;
+        long cells = 0;
+        for (int k = 0; k < SIDE && isInHall(nextX, nextY); k++) {
+            cells |= bitOf(nextX, nextY);
+            nextX += x / steps;
+            nextY += y / steps;
         }
-        return seen;
+        return cells;
     }
 
     private static int greatestDivisor(int a, int b) {
@@ -707,25 +715,17 @@ public final class RoomsCaught {
             findRooms(empty & ~doorCells, beside(~(hit | empty)) | BORDER);
         }
 
-        private static long rightOf(long cells) {
-            return cells << 1 & ~LEFT_SIDE;
-        }
-
-        private static long leftOf(long cells) {
-            return cells >>> 1 & ~RIGHT_SIDE;
-        }
-
         /** Cells with one of these left and right, or above and below, and none on the two other sides. */
         private static long betweenTwo(long cells) {
-            long right = rightOf(cells);
-            long left = leftOf(cells);
+            long right = cells << 1 & ~LEFT_SIDE;
+            long left = cells >>> 1 & ~RIGHT_SIDE;
             long below = cells << SIDE;
             long above = cells >>> SIDE;
             return right & left & ~(below | above) | below & above & ~(right | left);
         }
 
         private static long beside(long cells) {
-            return rightOf(cells) | leftOf(cells) | cells << SIDE | cells >>> SIDE;
+            return cells << 1 & ~LEFT_SIDE | cells >>> 1 & ~RIGHT_SIDE | cells << SIDE | cells >>> SIDE;
         }
 
         private void findRooms(long floor, long open) {
@@ -955,11 +955,11 @@ public final class RoomsCaught {
         }
 
         private static boolean isLetter(int sign) {
-            return isWithin(sign, 'a', 'z');
+            return sign >= 'a' && sign <= 'z';
         }
 
         private static boolean isDigit(int sign) {
-            return isWithin(sign, '0', '9');
+            return sign >= '0' && sign <= '9';
         }
     }
 
@@ -1009,7 +1009,7 @@ public final class RoomsCaught {
             for (int line = 0; line < lines; line++) {
                 int x = cell % SIDE + turnedX(xs[line], ys[line], turn);
                 int y = cell / SIDE + turnedY(xs[line], ys[line], turn);
-                if (!isWithin(x, 0, SIDE - 1) || !isWithin(y, 0, SIDE - 1)) {
+                if (!isInHall(x, y)) {
                     return NONE;
                 }
                 int more = costOf(hall, line, SIDE * y + x);
