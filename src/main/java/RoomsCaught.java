@@ -465,7 +465,8 @@ public final class RoomsCaught {
             for (int mark = 0; mark <= MOST_MARK; mark++) {
                 drawnByMark[mark] = 0;
             }
-            if (!isSmall()) {
+            if (right - left >= SIDE || bottom - top >= SIDE) {
+                // Too wide for the hall: lay refuses it everywhere.
                 return;
             }
             for (int i = 0; i < sweep.hits; i++) {
@@ -493,10 +494,6 @@ public final class RoomsCaught {
             }
         }
 
-        private boolean isSmall() {
-            return right - left < SIDE && bottom - top < SIDE;
-        }
-
         private void drawBeam(int x, int y) {
             int steps = stepsOf(x, y);
             for (int k = 0; k < steps; k++) {
@@ -508,7 +505,7 @@ public final class RoomsCaught {
         boolean lay(int cell) {
             int x = cell % SIDE;
             int y = cell / SIDE;
-            if (!isSmall() || x + left < 0 || x + right >= SIDE || y + top < 0 || y + bottom >= SIDE) {
+            if (x + left < 0 || x + right >= SIDE || y + top < 0 || y + bottom >= SIDE) {
                 return false;
             }
             shift = SIDE * (y + top) + x + left;

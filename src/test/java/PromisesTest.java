@@ -43,6 +43,7 @@ public final class PromisesTest {
         loops();
         spreads();
         lengths();
+        trueZero();
         counts();
         System.out.println(wrong == 0 ? "all promises as due" : wrong + " answers are not as due");
         if (wrong != 0) {
@@ -561,6 +562,15 @@ public final class PromisesTest {
         fault("hit 1 9", 6);
         fault("hit 12", 4);
         fault("hit 01 1", 4);
+        fault("hit 19 1", 4);
+        fault("hit 1 70", 6);
+        fault("hitz 1 1", 0);
+        fault("ahit 1 1", 0);
+        fault("xit 1 1", 0);
+        fault("hix 1 1", 0);
+        fault("empti 1 1", 0);
+        fault("marc 1 1 1", 0);
+        fault("hit 1 1a", 7);
         fault("hit 1 1 1", 8);
         fault("hit -1 1", 4);
         fault("hit 1,1", 5);
@@ -714,6 +724,27 @@ public final class PromisesTest {
         due("three down", x.moved(0, 1, 1), 3);
         due("the other way", x.moved(1, 0, 1), 3);
         sevenGone();
+        cornerGone();
+    }
+
+    /** The first and the last cell count as any other. */
+    private static void cornerGone() {
+        RoomsCaught x = new RoomsCaught();
+        int ends = make(x, -1, 0, 0);
+        int near = make(x, 1, 0, 0);
+        x.stand(ends, 1, 0);
+        x.stand(near, 62, 0);
+        x.keep(0);
+        x.part(ends);
+        x.part(near);
+        x.stand(near, 0, 0);
+        x.stand(ends, 63, 0);
+        x.keep(1);
+        // First 0, 63 hit and 1, 62 empty, then the other way about.
+        due("gone", x.since(0, 1, 0), bits(0, 63));
+        due("new", x.since(0, 1, 1), bits(1, 62));
+        due("two pairs", x.moved(0, 1, 0), 2);
+        due("one step each", x.moved(0, 1, 1), 2);
     }
 
     /** Seven cells gone and one new: the new one is nearest to the seventh, which does not count. */
@@ -955,6 +986,16 @@ public final class PromisesTest {
         due("full", x.length(0, 0, 0), FULL);
         due("full and out", x.length(1, 0, 0), OUTSIDE);
         due("count(8)", x.count(8), 20);
+    }
+
+    private static void trueZero() {
+        promise = "35 a true length of 0";
+        RoomsCaught x = new RoomsCaught();
+        due("true 0", x.length(0, 3, 0), 1);
+        due("held", x.held(0), 1);
+        due("with a true one", x.held(1), 1);
+        due("true 0, lo 4", x.length(4, 5, 0), 2);
+        due("span", x.span(100), 4);
     }
 
     private static void counts() {
