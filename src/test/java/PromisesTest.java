@@ -546,6 +546,7 @@ public final class PromisesTest {
         fault("mark 9 7 0", NONE);
         fault("mark 1 0 7", NONE);
         fault("  hit  1   2  ;  empty 3 4  ", NONE);
+        fault("hit1 2;empty3 4", NONE);
         fault("hits 0 0", 0);
         fault("hi 0 0", 0);
         fault("Hit 0 0", 0);
