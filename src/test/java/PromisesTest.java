@@ -1,19 +1,5 @@
 /** Cases worked out by hand from the document, one method a promise or a pair of them. */
-public final class PromisesTest {
-    private static int wrong = 0;
-    private static String promise = "";
-
-    private static void due(String call, long got, long want) {
-        if (got != want) {
-            wrong++;
-            System.out.println(promise + ": " + call + " answered " + got + ", due is " + want);
-        }
-    }
-
-    private static final int NONE = RoomsCaught.NONE, UNKNOWN = RoomsCaught.UNKNOWN, OUTSIDE = RoomsCaught.OUTSIDE;
-    private static final int NOT = RoomsCaught.NOT, FULL = RoomsCaught.FULL;
-    private static final int LEAST = Integer.MIN_VALUE, MOST = Integer.MAX_VALUE;
-
+public final class PromisesTest extends Checks {
     public static void main(String[] args) {
         newObject();
         sweepAndHit();
@@ -45,39 +31,7 @@ public final class PromisesTest {
         lengths();
         trueZero();
         counts();
-        System.out.println(wrong == 0 ? "all promises as due" : wrong + " answers are not as due");
-        if (wrong != 0) {
-            System.exit(1);
-        }
-    }
-
-    /** A sweep with hits told as x, y, mark, x, y, mark, ..; its number. */
-    private static int make(RoomsCaught x, int... hits) {
-        int number = x.sweep();
-        for (int i = 0; i + 2 < hits.length; i += 3) {
-            due("hit " + i / 3, x.hit(number, hits[i], hits[i + 1], hits[i + 2]), i / 3 + 1);
-        }
-        return number;
-    }
-
-    private static void type(RoomsCaught x, String text) {
-        x.erase();
-        for (int from = 0; from < text.length(); from += 8) {
-            int n = Math.min(8, text.length() - from);
-            long bytes = 0;
-            for (int i = 0; i < n; i++) {
-                bytes |= (long) (text.charAt(from + i) & 255) << 8 * i;
-            }
-            due("write", x.write(bytes, n), from + n);
-        }
-    }
-
-    private static long bits(int... cells) {
-        long all = 0;
-        for (int cell : cells) {
-            all |= 1L << cell;
-        }
-        return all;
+        end("all promises as due");
     }
 
     private static void newObject() {
