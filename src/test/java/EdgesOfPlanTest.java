@@ -20,6 +20,7 @@ public final class EdgesOfPlanTest extends Checks {
         noSuchRoom();
         awayByFewestDoors();
         awayTheOtherWayRound();
+        doorAtTheEdge();
         doorsSideBySide();
         end("the edges of walls, doors and rooms are as told");
     }
@@ -429,6 +430,30 @@ public final class EdgesOfPlanTest extends Checks {
         due("0 to 3", x.away(0, 3), 2);
         due("0 to 1", x.away(0, 1), 3);
         due("1 to 0", x.away(1, 0), 3);
+        // The wall right of the last ROOM becomes a GHOST: it is no ROOM then, and no way leads through it.
+        int through = make(x, 2, 0, 0);
+        x.stand(through, 27, 0);
+        due("ROOMS", x.count(3), 3);
+        due("DOORS are the same", x.doors(), bits(17, 19, 26));
+        due("0 to 2", x.away(0, 2), 1);
+        due("0 to 1", x.away(0, 1), NONE);
+        due("2 to 1", x.away(2, 1), NONE);
+        due("to 3", x.away(0, 3), UNKNOWN);
+        x.part(through);
+        due("0 to 1 again", x.away(0, 1), 3);
+    }
+
+    private static void doorAtTheEdge() {
+        promise = "18: a DOOR at the edge of THE HALL";
+        RoomsCaught x = new RoomsCaught();
+        x.stand(make(x, -1, 0, 0, 1, 0, 0), 1, 0);
+        x.stand(make(x, -1, 0, 0, 1, 0, 0, 0, 1, 0), 9, 0);
+        x.stand(make(x, -1, 0, 0, 1, 0, 0, 0, 1, 0, 0, -1, 0), 45, 0);
+        due("DOORS", x.doors(), bits(1));
+        due("ROOMS", x.count(3), 2);
+        due("beside the DOOR", x.rooms(0), bits(9));
+        due("no way in from there", x.away(0, 1), NONE);
+        due("no way out there", x.away(1, 0), NONE);
     }
 
     private static void doorsSideBySide() {

@@ -29,6 +29,8 @@ public final class EdgesOfSweepsTest extends Checks {
         iOfWays();
         quarrelsOfBeams();
         quarrelsOfMarks();
+        marksMoveAlong();
+        marksOfOneTried();
         barsBeyondMiss();
         barsByBits();
         fitsBesideTheHall();
@@ -594,9 +596,9 @@ public final class EdgesOfSweepsTest extends Checks {
     private static void quarrelsOfMarks() {
         promise = "QUARRELS: another MARK (none of them 0)";
         for (int mark = 0; mark <= 9; mark++) {
-            RoomsCaught x = new RoomsCaught();
-            x.stand(make(x, 0, 1, mark), 0, 0);
-            for (int other = 0; other <= 6; other++) {
+            for (int other = 0; other <= 9; other++) {
+                RoomsCaught x = new RoomsCaught();
+                x.stand(make(x, 0, 1, mark), 0, 0);
                 int one = make(x, 0, 1, other);
                 boolean isOther = mark != 0 && other != 0 && mark != other;
                 due(mark + " and " + other, x.fits(one, 0, 0, 1), isOther ? 1 : 0);
@@ -608,6 +610,48 @@ public final class EdgesOfSweepsTest extends Checks {
         x.stand(make(x, 0, 1, 1), 0, 0);
         due("1 and 9", x.fits(make(x, 0, 1, 9), 0, 0, 1), 1);
         due("9 elsewhere", x.fits(make(x, 0, 1, 9), 1, 0, 1), 0);
+        RoomsCaught y = new RoomsCaught();
+        y.stand(make(y, 0, 1, 0, 1, 1, 3, 2, 1, 9, 3, 1, 9), 0, 0);
+        due("one of four", y.fits(make(y, 0, 1, 0, 1, 1, 4, 2, 1, 9, 3, 1, 0), 0, 0, 1), 1);
+        due("two of four", y.fits(make(y, 0, 1, 9, 1, 1, 3, 2, 1, 8, 3, 1, 1), 0, 0, 1), 2);
+    }
+
+    private static void marksMoveAlong() {
+        promise = "MARKS of a SWEEP are where it STANDS now, TURNED as it is now";
+        int[] hits = {1, 0, 1, 0, 1, 2, -1, 0, 3, 0, -1, 4, 1, 1, 5, 2, 1, 6, 1, 2, 7, -1, 2, 8, -2, 1, 9};
+        for (int turn = 0; turn < 4; turn++) {
+            RoomsCaught x = new RoomsCaught();
+            int one = make(x, hits);
+            x.stand(one, 27, (turn + 1) % 4);
+            x.part(one);
+            x.stand(one, 36, turn);
+            for (int mark = 1; mark <= 9; mark++) {
+                int hx = hits[3 * mark - 3];
+                int hy = hits[3 * mark - 2];
+                int[] turnedX = {hx, -hy, -hx, hy};
+                int[] turnedY = {hy, hx, -hy, -hx};
+                type(x, "mark " + mark + " 0 0");
+                x.thing();
+                due("MARK " + mark + " in one CELL", x.fit(-1), 4);
+                due("MARK " + mark, x.fit(0), 4 * (36 + 8 * turnedY[turn] + turnedX[turn]));
+            }
+        }
+    }
+
+    private static void marksOfOneTried() {
+        promise = "8: QUARRELS of one SWEEP have nothing of another that was tried before";
+        for (int mark = 1; mark <= 9; mark++) {
+            RoomsCaught x = new RoomsCaught();
+            x.stand(make(x, 0, 1, mark), 0, 0);
+            int same = make(x, 0, 1, mark);
+            int other = make(x, 0, 1, mark % 9 + 1);
+            int none = make(x, 0, 1, 0);
+            due("the same", x.fits(same, 0, 0, 1), 0);
+            due("another", x.fits(other, 0, 0, 1), 1);
+            due("none", x.fits(none, 0, 0, 1), 0);
+            due("another again", x.fits(other, 0, 0, 1), 1);
+            due("the same again", x.fits(same, 0, 0, 1), 0);
+        }
     }
 
     private static void barsBeyondMiss() {

@@ -11,6 +11,7 @@ public final class EdgesOfThingsTest extends Checks {
         everyByteBehind();
         everyByteAsNumber();
         everyByteAsWord();
+        everyByteBehindWord();
         wordsAsWritten();
         blanksBetween();
         endTooSoon();
@@ -180,6 +181,19 @@ public final class EdgesOfThingsTest extends Checks {
             fault("h" + (char) b + "t 1 2", b == 'i' ? NONE : 0);
             fault("empt" + (char) b + " 1 2", b == 'y' ? NONE : 0);
             fault((char) b + "ark 1 2 3", b == 'm' ? NONE : b == 32 ? 1 : 0);
+        }
+    }
+
+    private static void everyByteBehindWord() {
+        promise = "21: a TOKEN: a row of small letters, a row of digits, any other byte";
+        for (int b = 0; b < 256; b++) {
+            boolean isLetter = b >= 'a' && b <= 'z';
+            boolean isDigit = b >= '0' && b <= '9';
+            // A letter makes the word longer; a digit is X already, and the third number is one too many.
+            fault("hit" + (char) b + " 1 2", b == 32 ? NONE : isLetter ? 0 : isDigit && b <= '7' ? 7 : 3);
+            fault((char) b + "mark 1 2 3", b == 32 ? NONE : 0);
+            fault("mark " + (char) b + "1 2 3", b == 32 ? NONE : 5);
+            fault("mark 1" + (char) b + " 2 3", b == 32 ? NONE : isDigit ? 5 : 6);
         }
     }
 
@@ -435,6 +449,13 @@ public final class EdgesOfThingsTest extends Checks {
         due("there", x.fit(0), 4);
         x.part(two);
         due("apart again", x.fit(-1), 0);
+        for (int i = 3; i < 8; i++) {
+            x.stand(make(x, 1, 0, i), 0, 0);
+        }
+        due("of eight SWEEPS none", x.fit(-1), 0);
+        type(x, "mark 7 0 0");
+        x.thing();
+        due("the last of eight", x.fit(-1), 4);
     }
 
     private static void priceAtMost() {

@@ -5,6 +5,7 @@ public final class EdgesOfYearsTest extends Checks {
     public static void main(String[] args) {
         catchesZeroToTwo();
         unseenAtFirst();
+        unseenAtFirstEverywhere();
         keepsWhatIsThere();
         notUnseen();
         goneNewLeft();
@@ -12,6 +13,7 @@ public final class EdgesOfYearsTest extends Checks {
         ofOneCatchTwice();
         pairsUpToSix();
         pairsFarApart();
+        pairsCrossed();
         noPairs();
         noSuchMoved();
         seeAllPairs();
@@ -55,6 +57,25 @@ public final class EdgesOfYearsTest extends Checks {
                     due("LEFT of " + one + ", " + two, x.since(one, two, 2), one == kept && two != kept ? bits(1) : 0);
                 }
             }
+        }
+    }
+
+    private static void unseenAtFirstEverywhere() {
+        promise = "24: UNSEEN at first, the first and the last CELL, too";
+        RoomsCaught x = new RoomsCaught();
+        int[] middles = {8, 48};
+        for (int k = 0; k < 2; k++) {
+            // The whole first row from the second one, then the whole last row from the one ahead of it.
+            int row = x.sweep();
+            for (int i = 0; i < 8; i++) {
+                x.hit(row, i, k == 0 ? -1 : 1, 0);
+            }
+            x.stand(row, middles[k], 0);
+            x.keep(0);
+            for (int other = 1; other <= 2; other++) {
+                due("LEFT of row " + 7 * k, x.since(0, other, 2), 255L << 56 * k);
+            }
+            x.part(row);
         }
     }
 
@@ -244,6 +265,25 @@ public final class EdgesOfYearsTest extends Checks {
         due("one pair", x.moved(0, 1, 0), 1);
         due("from one end to the other", x.moved(0, 1, 1), 14);
         due("and back", x.moved(1, 0, 1), 14);
+    }
+
+    /** By numbers 7, 8 go with 16, 23, but 7 is nearer to 23, and 8 to 16. */
+    private static void pairsCrossed() {
+        promise = "26: the least of all pairs together, not in the order of numbers";
+        RoomsCaught x = new RoomsCaught();
+        x.stand(make(x, 0, -1, 0), 16, 0);
+        x.stand(make(x, 0, -2, 0), 23, 0);
+        x.keep(0);
+        x.part(0);
+        x.part(1);
+        x.stand(make(x, 0, 1, 0), 8, 0);
+        x.stand(make(x, 0, 2, 0), 7, 0);
+        x.keep(1);
+        due("GONE", x.since(0, 1, 0), bits(7, 8));
+        due("NEW", x.since(0, 1, 1), bits(16, 23));
+        due("two pairs", x.moved(0, 1, 0), 2);
+        due("1 and 2", x.moved(0, 1, 1), 3);
+        due("back", x.moved(1, 0, 1), 3);
     }
 
     private static void noPairs() {
