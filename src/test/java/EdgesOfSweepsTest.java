@@ -29,6 +29,7 @@ public final class EdgesOfSweepsTest extends Checks {
         iOfWays();
         quarrelsOfBeams();
         quarrelsOfMarks();
+        quarrelsOfBothKinds();
         marksMoveAlong();
         marksOfOneTried();
         barsBeyondMiss();
@@ -614,6 +615,17 @@ public final class EdgesOfSweepsTest extends Checks {
         y.stand(make(y, 0, 1, 0, 1, 1, 3, 2, 1, 9, 3, 1, 9), 0, 0);
         due("one of four", y.fits(make(y, 0, 1, 0, 1, 1, 4, 2, 1, 9, 3, 1, 0), 0, 0, 1), 1);
         due("two of four", y.fits(make(y, 0, 1, 9, 1, 1, 3, 2, 1, 8, 3, 1, 1), 0, 0, 1), 2);
+    }
+
+    /** The document's "and" is read as a sum: a HIT may quarrel by a BEAM and by its MARK. */
+    private static void quarrelsOfBothKinds() {
+        promise = "QUARRELS: by a BEAM, and by a MARK";
+        RoomsCaught x = new RoomsCaught();
+        x.stand(make(x, 1, 0, 4, 2, 0, 0), 8, 0);
+        // 9 is its HIT with MARK 4, and its own BEAM to 10 passes there.
+        due("the same MARK: the BEAM alone", x.fits(make(x, 0, -1, 4), 17, 0, 1), 1);
+        due("another MARK: both", x.fits(make(x, 0, -1, 5), 17, 0, 1), 2);
+        due("no MARK: the BEAM alone", x.fits(make(x, 0, -1, 0), 17, 0, 1), 1);
     }
 
     private static void marksMoveAlong() {
