@@ -33,6 +33,7 @@ public final class EdgesOfJoinsTest extends Checks {
         spanOfNone();
         spanHundredths();
         spanJustSoMany();
+        spanInAnyOrder();
         spanFarthest();
         countsOfNothing();
         countsOfAll();
@@ -569,6 +570,26 @@ public final class EdgesOfJoinsTest extends Checks {
                 }
                 due("span(" + hundredths + ") of " + n, x.span(hundredths), w);
             }
+        }
+    }
+
+    private static void spanInAnyOrder() {
+        promise = "37: the least w, in whichever order LENGTHS were told";
+        int[][] orders = {{0, 1, 2, 3}, {3, 2, 1, 0}, {1, 3, 0, 2}, {2, 0, 3, 1}, {3, 0, 1, 2}, {1, 2, 3, 0}};
+        int[] lacks = {0, 4, 40, 400};
+        for (int[] order : orders) {
+            RoomsCaught x = new RoomsCaught();
+            for (int i : order) {
+                x.length(500, 500, i % 2 == 0 ? 500 - lacks[i] : 500 + lacks[i]);
+                x.length(0, 0, -1);
+            }
+            due("25", x.span(25), 0);
+            due("26", x.span(26), 4);
+            due("50", x.span(50), 4);
+            due("51", x.span(51), 40);
+            due("75", x.span(75), 40);
+            due("76", x.span(76), 400);
+            due("100", x.span(100), 400);
         }
     }
 

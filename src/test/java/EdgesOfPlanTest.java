@@ -10,6 +10,7 @@ public final class EdgesOfPlanTest extends Checks {
         cornersOfCrossing();
         hitsOnTwoSidesOrFour();
         doorsOfEmptyCells();
+        doorsAtTheSides();
         doorsBesideGhosts();
         roomBesideGhosts();
         roomBesideEmptyAndDoors();
@@ -216,6 +217,35 @@ public final class EdgesOfPlanTest extends Checks {
         x.part(through);
         due("HIT between", x.doors(), 0);
         due("a WALL", x.wall(0), 10 * 26 + 3);
+    }
+
+    /** The last CELL of a row and the first of the next one differ by 1, but do not lie side by side. */
+    private static void doorsAtTheSides() {
+        promise = "15: left and right of a CELL at the side of THE HALL";
+        for (int row = 0; row < 7; row++) {
+            int last = 8 * row + 7;
+            RoomsCaught x = new RoomsCaught();
+            x.stand(make(x, -1, 0, 0), last, 0);
+            x.stand(make(x, -1, 0, 0), last + 2, 0);
+            due("HIT", x.cells(2), bits(last - 1, last + 1));
+            due("HIT on the left, the next row's first HIT", x.doors(), 0);
+            RoomsCaught y = new RoomsCaught();
+            y.stand(make(y, 1, 0, 0), last + 1, 0);
+            y.stand(make(y, 1, 0, 0), last - 1, 0);
+            due("HIT", y.cells(2), bits(last, last + 2));
+            due("HIT on the right, the row before's last HIT", y.doors(), 0);
+        }
+        for (int row = 1; row < 6; row++) {
+            int last = 8 * row + 7;
+            RoomsCaught x = new RoomsCaught();
+            x.stand(make(x, 0, -1, 0, 0, 1, 0), last, 0);
+            x.stand(make(x, -1, 0, 0), last + 2, 0);
+            due("above and below, the next row's first HIT", x.doors(), bits(last));
+            RoomsCaught y = new RoomsCaught();
+            y.stand(make(y, 0, -1, 0, 0, 1, 0), last + 1, 0);
+            y.stand(make(y, 1, 0, 0), last - 1, 0);
+            due("above and below, the row before's last HIT", y.doors(), bits(last + 1));
+        }
     }
 
     private static void doorsBesideGhosts() {

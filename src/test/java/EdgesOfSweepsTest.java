@@ -19,6 +19,7 @@ public final class EdgesOfSweepsTest extends Checks {
         hitOrEmptyOrBoth();
         limitsAtFirst();
         limitsBothSides();
+        catchesOfHits();
         needOrMore();
         needZeroAndSixteen();
         missOrFewer();
@@ -412,6 +413,31 @@ public final class EdgesOfSweepsTest extends Checks {
         for (int what : new int[] {LEAST, -1, 3, MOST}) {
             due("what " + what, x.set(what, 0), OUTSIDE);
         }
+    }
+
+    private static void catchesOfHits() {
+        promise = "CATCHES: its HITS that are in CELLS in which a SWEEP that STANDS has a HIT";
+        RoomsCaught x = new RoomsCaught();
+        int one = make(x, 0, -1, 0, 1, -1, 0);
+        int first = make(x, 1, 0, 0);
+        int second = make(x, 1, 0, 5);
+        due("none STANDS", x.fits(one, 9, 0, 0), 0);
+        x.stand(first, 0, 0);
+        due("one of its two", x.fits(one, 9, 0, 0), 1);
+        due("an EMPTY one and the HIT one", x.fits(one, 8, 0, 0), 1);
+        due("an EMPTY one and an UNSEEN one", x.fits(one, 9, 3, 0), 0);
+        x.stand(second, 0, 0);
+        due("a HIT that two have is caught once", x.fits(one, 9, 0, 0), 1);
+        int through = make(x, 3, 0, 0);
+        x.stand(through, 0, 0);
+        due("a GHOST", x.cell(1), 3);
+        due("a HIT that another passes through", x.fits(one, 9, 0, 0), 1);
+        x.part(first);
+        due("the other has it still", x.fits(one, 9, 0, 0), 1);
+        x.part(second);
+        due("EMPTY then", x.cell(1), 1);
+        due("neither has it", x.fits(one, 9, 0, 0), 0);
+        due("the HIT behind", x.fits(one, 10, 0, 0), 1);
     }
 
     /** A row of HITS told twice: moved by k along the row, k fewer are caught. */

@@ -29,6 +29,7 @@ public final class EdgesOfThingsTest extends Checks {
         marksThatStand();
         priceAtMost();
         priceTen();
+        oneLineUnmet();
         fitsByCost();
         end("the edges of texts and things are as told");
     }
@@ -491,6 +492,36 @@ public final class EdgesOfThingsTest extends Checks {
         due("the first", x.fit(0), 10000);
         due("the last", x.fit(255), 10255);
         due("beyond", x.fit(256), NONE);
+    }
+
+    /** However many LINES are UNSEEN, and wherever it stands among them, a LINE that is seen otherwise is no FIT. */
+    private static void oneLineUnmet() {
+        promise = "23: costs 1 instead only where the CELL is UNSEEN";
+        String[] unmet = {"hit 0 0", "empty 3 0", "hit 1 0", "empty 1 0", "mark 9 1 0", "mark 1 3 0", "mark 1 0 0"};
+        for (String line : unmet) {
+            for (int unseen = 0; unseen <= 9; unseen++) {
+                for (int ahead = 0; ahead <= unseen; ahead += Math.max(1, unseen)) {
+                    RoomsCaught x = fourKinds();
+                    x.set(2, 10);
+                    type(x, times(ahead, "hit 4 0;") + line + times(unseen - ahead, ";hit 4 0"));
+                    due("thing", x.thing(), unseen + 1);
+                    due(line + " with " + unseen + " UNSEEN", costAt(x, 0), NONE);
+                    due("all UNSEEN, one CELL below", costAt(x, 4 * 8), unseen + 1);
+                }
+            }
+        }
+    }
+
+    /** The cost of the FIT with that 4 CELL + TURN; NONE: it is no FIT. */
+    private static int costAt(RoomsCaught x, int place) {
+        int all = x.fit(-1);
+        for (int i = 0; i < all; i++) {
+            int fit = x.fit(i);
+            if (fit % 1000 == place) {
+                return fit / 1000;
+            }
+        }
+        return NONE;
     }
 
     private static void fitsByCost() {

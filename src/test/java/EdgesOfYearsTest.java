@@ -23,6 +23,7 @@ public final class EdgesOfYearsTest extends Checks {
         nextOfNoPlaces();
         nextOfNothingAsked();
         nextCountsUnseen();
+        nextBehindGhosts();
         nextCountsItself();
         nextIsTheLeast();
         nextAtTheEnds();
@@ -439,6 +440,17 @@ public final class EdgesOfYearsTest extends Checks {
         due("HIT ones do not count", x.next(bits(8, 9, 10, 11, 12, 18), bits(0, 40)), 40);
         due("EMPTY ones do not count", x.next(bits(0, 16), bits(0, 40)), 40);
         due("what is not asked does not count", x.next(bits(1), bits(2, 40)), 2);
+    }
+
+    private static void nextBehindGhosts() {
+        promise = "28: would be SEEN: past no HIT one and no GHOST";
+        RoomsCaught x = new RoomsCaught();
+        x.stand(make(x, 0, 1, 0, 0, 2, 0), 19, 0);
+        // 19 EMPTY, 27 a GHOST, 35 HIT.
+        due("28 behind the GHOST", x.next(bits(28), bits(26, 29)), 29);
+        due("36 behind the HIT", x.next(bits(36), bits(34, 37)), 37);
+        due("20 behind the EMPTY one", x.next(bits(20), bits(18, 21)), 18);
+        due("12 behind the UNSEEN one", x.next(bits(12), bits(10, 13)), 10);
     }
 
     private static void nextCountsItself() {
