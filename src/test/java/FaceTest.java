@@ -5,6 +5,7 @@ import java.lang.reflect.Modifier;
 import java.nio.file.Files;
 import java.nio.file.Path;
 import java.util.Arrays;
+import java.util.HashSet;
 import java.util.Set;
 import java.util.TreeSet;
 import java.util.regex.Matcher;
@@ -33,7 +34,9 @@ public final class FaceTest {
 
     public static void main(String[] args) throws Exception {
         checkMembers();
+        checkClasses();
         checkSource();
+        checkTheChecks();
         System.out.println(wrong == 0 ? "the face is as told" : wrong + " faults");
         if (wrong != 0) {
             System.exit(1);
@@ -83,18 +86,109 @@ public final class FaceTest {
         }
     }
 
+    private static final Set<String> FIELD_TYPES = Set.of("int", "long", "short", "byte", "char", "boolean", "int[]", "long[]",
+            "short[]", "byte[]", "char[]", "boolean[]", "int[][]", "long[][]", "short[][]", "byte[][]", "char[][]", "String");
+    private static final Set<String> CONSTANT_TYPES =
+            Set.of("int", "long", "boolean", "char", "String", "int[]", "long[]", "char[]", "byte[]");
+    private static final int MOST_FIELDS = 20, MOST_CLASSES = 12, MOST_PARAMETERS = 7, MOST_LINES = 60;
+
+    /** Rules 2, 3, 5 and 11 as far as the compiled classes show them. */
+    private static void checkClasses() throws Exception {
+        int classes = 0;
+        for (Class<?> one : allClasses()) {
+            classes++;
+            check(one + " is anonymous or local", !one.isAnonymousClass() && !one.isLocalClass());
+            check(one + " is not static", one == RoomsCaught.class || Modifier.isStatic(one.getModifiers()));
+            int fields = 0;
+            for (Field field : one.getDeclaredFields()) {
+                String type = field.getType().getSimpleName();
+                if (Modifier.isStatic(field.getModifiers())) {
+                    check(field + " is no constant", Modifier.isFinal(field.getModifiers()) && CONSTANT_TYPES.contains(type));
+                } else {
+                    fields++;
+                    check(field + " is of no type of ours", FIELD_TYPES.contains(type) || isOwn(field.getType()));
+                }
+            }
+            check(one + " has " + fields + " fields", fields <= MOST_FIELDS);
+            for (Method method : one.getDeclaredMethods()) {
+                check(method + " takes too much", method.getParameterCount() <= MOST_PARAMETERS);
+                check(method + " is of the compiler's making", !method.isSynthetic());
+            }
+        }
+        check(classes + " classes", classes <= MOST_CLASSES);
+    }
+
+    private static boolean isOwn(Class<?> type) {
+        return (type.isArray() ? type.getComponentType() : type).getName().startsWith("RoomsCaught");
+    }
+
+    /** As the compiler wrote them, so that classes without a name are among them. */
+    private static Set<Class<?>> allClasses() throws Exception {
+        Path place = Path.of(RoomsCaught.class.getProtectionDomain().getCodeSource().getLocation().toURI());
+        Set<Class<?>> classes = new HashSet<>();
+        for (String file : place.toFile().list()) {
+            if (file.matches("RoomsCaught(\\$.*)?\\.class")) {
+                classes.add(Class.forName(file.replace(".class", "")));
+            }
+        }
+        return classes;
+    }
+
+    /** The words that LANGUAGE.md forbids, with the rule that forbids each. */
+    private static final String[][] FORBIDDEN = {
+        {"rule 2", "new\\s+\\w+\\s*\\([^;{]*\\)\\s*\\{"}, {"rule 2", "->|::"},
+        {"rule 4", "\\b(import|package)\\b"}, {"rule 4", "\\bSystem\\.(?!arraycopy\\b)"}, {"rule 4", "\\bjava\\."},
+        {"rule 4", "\\b\\w+Exact\\b"}, {"rule 4", "\\b(Integer|Long)\\.(?!bitCount\\b)"},
+        {"rule 4", "\\bMath\\.(?!(abs|max|min)\\b)"},
+        {"rule 5", "\\bstatic\\s*\\{"}, {"rule 6", "\\b(throw|throws|try|catch|synchronized|assert)\\b"},
+        {"rule 6", "\\b(hashCode|toString)\\b"}, {"rule 10", "\"\\s*\\+|\\+\\s*\""}, {"rule 3", "\\b(double|float)\\b"}};
+
     private static void checkSource() throws Exception {
         String source = Files.readString(Path.of("src/main/java/RoomsCaught.java"));
-        String bare = source.replaceAll("(?s)/\\*.*?\\*/", " ").replaceAll("//[^\n]*", " ")
-                .replaceAll("\"[^\"\n]*\"", "\"\"");
-        Matcher forbidden = Pattern.compile("\\b(throw|throws|try|catch|synchronized|assert|import|package|new \\w+\\(\\) *\\{"
-                + "|System\\.(?!arraycopy)\\w+|Integer\\.(?!bitCount)\\w+|Long\\.(?!bitCount)\\w+|Math\\.\\w+Exact|double|float)\\b"
-                + "|->|::").matcher(bare);
-        while (forbidden.find()) {
-            check("forbidden: " + forbidden.group(), false);
+        String bare = bareOf(source);
+        for (String[] rule : FORBIDDEN) {
+            Matcher forbidden = Pattern.compile(rule[1]).matcher(bare);
+            while (forbidden.find()) {
+                check(rule[0] + " forbids: " + forbidden.group(), false);
+            }
         }
         for (char sign : source.toCharArray()) {
             check("sign " + (int) sign, sign < 127);
+        }
+        checkLengths(bare);
+    }
+
+    private static String bareOf(String source) {
+        return source.replaceAll("(?s)/\\*.*?\\*/", " ").replaceAll("//[^\n]*", " ").replaceAll("\"[^\"\n]*\"", "\"\"");
+    }
+
+    /** Rule 11: a method begins with a line that ends in ") {" and ends where its own brace stands again. */
+    private static void checkLengths(String bare) {
+        String[] lines = bare.split("\n", -1);
+        for (int from = 0; from < lines.length; from++) {
+            if (!lines[from].matches(" {4}(?: {4})?\\w.*\\) \\{") || lines[from].matches(" *(if|for|while|switch|else)\\b.*")) {
+                continue;
+            }
+            String end = lines[from].replaceAll("\\S.*", "") + "}";
+            int to = from;
+            while (to < lines.length && !lines[to].equals(end)) {
+                to++;
+            }
+            check("rule 11: " + (to - from + 1) + " lines:" + lines[from], to - from + 1 <= MOST_LINES);
+        }
+    }
+
+    /** A check that finds nothing in what is wrong would be none. */
+    private static void checkTheChecks() {
+        String[] odd = {"x = new Object() {\n", "x = new Sweep(1, 2) {", "run(() -> 1)", "Sweep::new", "import java.util.List;",
+            "System.out.println(1);", "System.nanoTime()", "Math.addExact(1, 2)", "Math.sqrt(2)", "Integer.valueOf(1)",
+            "static {\n", "throw x;", "try {", "} catch (E e) {", "x.hashCode()", "\"\" + 1", "1 + \"\"", "double d;"};
+        for (String text : odd) {
+            boolean isFound = false;
+            for (String[] rule : FORBIDDEN) {
+                isFound |= Pattern.compile(rule[1]).matcher(text).find();
+            }
+            check("nothing forbids: " + text, isFound);
         }
     }
 }
